@@ -1,0 +1,38 @@
+/** What every test here counts with: prints each answer that is not the one due, and ends with exit code 1 then. */
+final class Due {
+    interface Call {
+        long answer();
+    }
+
+    private static int wrong = 0;
+    private static int checked = 0;
+
+    private Due() {
+    }
+
+    static void is(String call, long got, long want) {
+        checked++;
+        if (got != want) {
+            wrong++;
+            System.out.println(call + " answered " + got + ", due is " + want);
+        }
+    }
+
+    static void throwsIndex(String call, Call c) {
+        checked++;
+        try {
+            long got = c.answer();
+            wrong++;
+            System.out.println(call + " answered " + got + ", due is an ArrayIndexOutOfBoundsException");
+        } catch (ArrayIndexOutOfBoundsException due) {
+            return;
+        }
+    }
+
+    static void end() {
+        System.out.println(checked + " answers looked at, " + wrong + " not as due");
+        if (checked == 0 || wrong != 0) {
+            System.exit(1);
+        }
+    }
+}
