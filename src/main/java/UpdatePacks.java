@@ -386,7 +386,7 @@ public final class UpdatePacks {
         }
 
         void begin(int newNumber, int newEdition, byte[] source, int count) {
-            for (int i = 0; i < count && i < BANK_SIZE && i < source.length; i++) {
+            for (int i = 0; i < count; i++) {
                 octets[i] = source[i];
             }
             length = count;

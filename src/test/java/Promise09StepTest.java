@@ -5,8 +5,12 @@ public final class Promise09StepTest {
         intoTheBankThatDoesNotRun();
         theRestBecomesZero();
         commitThenSwitch();
-        noCommitWhileOneIsAway();
+        noCommitWhileOneIsAway(1, 2);
+        noCommitWhileOneIsAway(2, 1);
+        noCommitWhileOneIsWriting(1, 2);
+        noCommitWhileOneIsWriting(2, 1);
         switchesOneByOne();
+        switchesTheOtherWayRound();
         Due.end();
     }
 
@@ -78,22 +82,35 @@ public final class Promise09StepTest {
         Due.is("the counter", x.counter(1), 4);
     }
 
-    private static void noCommitWhileOneIsAway() {
+    private static void noCommitWhileOneIsAway(int stepping, int away) {
         UpdatePacks x = Made.controllers(2);
         int one = Made.ready(x, 1, 1);
         int two = Made.ready(x, 2, 1);
         x.needs(one, two);
-        x.silent(2, true);
-        Due.is("2 is SILENT", x.step(1), 2);
-        Due.is("2 is SILENT still", x.step(1), 2);
-        x.silent(2, false);
+        x.silent(away, true);
+        Due.is(away + " is SILENT", x.step(stepping), 2);
+        Due.is(away + " is SILENT still", x.step(stepping), 2);
+        x.silent(away, false);
         x.cut();
-        x.boot(1);
-        Due.is("2 is OFF", x.step(1), 2);
-        Due.is("2 is OFF still", x.step(1), 2);
-        Due.is("2 boots, and nothing was COMMITTED", x.boot(2), 0);
-        Due.is("commit", x.step(1), 2);
-        Due.is("switch", x.step(1), 3);
+        x.boot(stepping);
+        Due.is(away + " is OFF", x.step(stepping), 2);
+        Due.is(away + " is OFF still", x.step(stepping), 2);
+        Due.is(away + " boots, and nothing was COMMITTED", x.boot(away), 0);
+        Due.is("commit", x.step(stepping), 2);
+        Due.is("switch", x.step(stepping), 3);
+    }
+
+    private static void noCommitWhileOneIsWriting(int stepping, int writing) {
+        UpdatePacks x = Made.controllers(2);
+        int one = Made.ready(x, stepping, 1);
+        int two = Made.pack(x, writing, 1, 17);
+        x.needs(one, two);
+        x.step(writing);
+        Due.is(writing + " is WRITING", x.step(stepping), 2);
+        Due.is(writing + " is WRITING still", x.step(stepping), 2);
+        Due.is(writing + " is READY", x.step(writing), 2);
+        Due.is("commit", x.step(writing), 2);
+        Due.is("switch", x.step(stepping), 3);
     }
 
     private static void switchesOneByOne() {
@@ -108,5 +125,15 @@ public final class Promise09StepTest {
         Due.is("1 is IDLE", x.step(1), 0);
         Due.is("2 is IDLE", x.step(2), 0);
         Due.is("2 runs", x.counter(2), 6);
+    }
+
+    private static void switchesTheOtherWayRound() {
+        UpdatePacks x = Made.committedPair();
+        Due.is("2 switches", x.step(2), 3);
+        Due.is("2 is SWITCHED", x.step(2), 3);
+        Due.is("no LAST SET yet", x.joint(), 0);
+        Due.is("1 switches", x.step(1), 3);
+        Due.is("2 is IDLE", x.step(2), 0);
+        Due.is("the LAST SET", x.joint(), 1);
     }
 }

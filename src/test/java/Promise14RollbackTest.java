@@ -2,7 +2,8 @@ public final class Promise14RollbackTest {
     public static void main(String[] args) {
         onlyOnce();
         allOfThem();
-        notWhileOneIsAway();
+        notWhileOneIsAway(1, 2);
+        notWhileOneIsAway(2, 1);
         notWithAnOpenPackage();
         othersDoNotMatter();
         aLowerEditionAfterwards();
@@ -39,17 +40,19 @@ public final class Promise14RollbackTest {
         Due.is("joint()", x.joint(), 0);
     }
 
-    private static void notWhileOneIsAway() {
+    private static void notWhileOneIsAway(int there, int away) {
         UpdatePacks x = pairThatRuns();
-        x.silent(2, true);
-        Due.is("2 is SILENT", x.rollback(), 0);
+        x.silent(away, true);
+        Due.is(away + " is SILENT", x.rollback(), 0);
         Due.is("1 stays", x.counter(1), 5);
-        x.silent(2, false);
+        Due.is("2 stays", x.counter(2), 6);
+        x.silent(away, false);
         x.cut();
-        x.boot(1);
-        Due.is("2 is OFF", x.rollback(), 0);
+        x.boot(there);
+        Due.is(away + " is OFF", x.rollback(), 0);
         Due.is("1 stays still", x.counter(1), 5);
-        x.boot(2);
+        Due.is("2 stays still", x.counter(2), 6);
+        x.boot(away);
         Due.is("rollback()", x.rollback(), 1);
     }
 
