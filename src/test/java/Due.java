@@ -10,6 +10,25 @@ final class Due {
     private Due() {
     }
 
+    /** One sentence of the document and its own test: printed if the test finds that it does not hold. */
+    static void sentence(String words, Runnable test) {
+        int wrongBefore = wrong;
+        int checkedBefore = checked;
+        try {
+            test.run();
+        } catch (RuntimeException e) {
+            wrong++;
+            System.out.println("a call threw what is not due: " + e);
+        }
+        if (checked == checkedBefore) {
+            wrong++;
+            System.out.println("the test looked at no answer");
+        }
+        if (wrong != wrongBefore) {
+            System.out.println("does not hold: \"" + words + "\"");
+        }
+    }
+
     static void is(String call, long got, long want) {
         checked++;
         if (got != want) {

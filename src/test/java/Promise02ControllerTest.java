@@ -1,38 +1,48 @@
 public final class Promise02ControllerTest {
     public static void main(String[] args) {
-        UpdatePacks x = new UpdatePacks();
-        Due.is("controller(0)", x.controller(0), -2);
-        Due.is("controller(-1)", x.controller(-1), -2);
-        Due.is("controller(128)", x.controller(128), -2);
-        Due.is("controller(least)", x.controller(Integer.MIN_VALUE), -2);
-        Due.is("controller(most)", x.controller(Integer.MAX_VALUE), -2);
-        Due.is("controller(257)", x.controller(257), -2);
-        Due.is("controller(1)", x.controller(1), 1);
-        Due.is("controller(127)", x.controller(127), 2);
-        for (int k = 3; k <= 8; k++) {
-            Due.is("controller(127) again", x.controller(127), k);
-        }
-        Due.is("a ninth", x.controller(5), -4);
-        Due.is("a ninth without hardware", x.controller(0), -2);
-        Due.is("step(8)", x.step(8), 0);
-        Due.is("step(9)", x.step(9), -1);
-        beginsAsTold();
+        Due.sentence("A controller: its number.", Promise02ControllerTest::itsNumber);
+        Due.sentence("-2 the HARDWARE is none", Promise02ControllerTest::hardwareIsNone);
+        Due.sentence("-4 there are 8", Promise02ControllerTest::thereAreEight);
         Due.end();
     }
 
-    private static void beginsAsTold() {
-        UpdatePacks x = Made.controllers(1);
-        x.cut();
-        Due.is("controller after a cut", x.controller(9), 2);
-        Due.is("it is ON", x.step(2), 0);
-        Due.is("counter(2)", x.counter(2), 0);
-        Due.is("bank 0 has edition 0", x.boot(2), 0);
-        for (int b = 0; b < 2; b++) {
-            // Every fifth: an object is used for at most 512 calls.
-            for (int i = 0; i < 256; i += 5) {
-                Due.is("bank(2, " + b + ", " + i + ")", x.bank(2, b, i), 0);
-            }
+    private static void itsNumber() {
+        UpdatePacks x = new UpdatePacks();
+        Due.is("the least hardware", x.controller(1), 1);
+        Due.is("the greatest", x.controller(127), 2);
+        Due.is("one that there is already", x.controller(127), 3);
+        x.octet((byte) 127);
+        Due.is("a package fits the second", x.package0(2, 1, true), 1);
+        x.octet((byte) 127);
+        Due.is("and the third", x.package0(3, 1, true), 2);
+        x.octet((byte) 127);
+        Due.is("not the first", x.package0(1, 1, true), -6);
+    }
+
+    private static void hardwareIsNone() {
+        UpdatePacks x = new UpdatePacks();
+        int[] none = {0, -1, -127, 128, 255, 256, 257, Integer.MIN_VALUE, Integer.MIN_VALUE + 1, Integer.MAX_VALUE};
+        for (int hardware : none) {
+            Due.is("controller(" + hardware + ")", x.controller(hardware), -2);
+            Due.is("there is none", x.counter(1), -1);
         }
-        Due.is("not silent", x.silent(2, false), 0);
+        Due.is("a good one has number 1", x.controller(1), 1);
+        for (int hardware : none) {
+            Due.is("controller(" + hardware + ") again", x.controller(hardware), -2);
+        }
+        Due.is("the next has number 2", x.controller(1), 2);
+    }
+
+    private static void thereAreEight() {
+        UpdatePacks x = new UpdatePacks();
+        for (int k = 1; k <= 8; k++) {
+            Due.is("controller " + k, x.controller(127), k);
+        }
+        Due.is("a ninth", x.controller(5), -4);
+        Due.is("a ninth once more", x.controller(127), -4);
+        Due.is("a ninth without hardware", x.controller(0), -2);
+        Due.is("there is none", x.step(9), -1);
+        Due.is("the eighth is there", x.step(8), 0);
+        Due.is("eight are ON", x.cut(), 8);
     }
 }

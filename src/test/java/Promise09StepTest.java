@@ -1,139 +1,88 @@
 public final class Promise09StepTest {
     public static void main(String[] args) {
-        refusals();
-        idle();
-        intoTheBankThatDoesNotRun();
-        theRestBecomesZero();
-        commitThenSwitch();
-        noCommitWhileOneIsAway(1, 2);
-        noCommitWhileOneIsAway(2, 1);
-        noCommitWhileOneIsWriting(1, 2);
-        noCommitWhileOneIsWriting(2, 1);
-        switchesOneByOne();
-        switchesTheOtherWayRound();
+        Due.sentence("A STEP: the STATE then", Promise09StepTest::stateThen);
+        Due.sentence("(3 if it SWITCHED by that)", Promise09StepTest::threeIfSwitched);
+        Due.sentence("A STEP", Promise09StepTest::ofThatControllerAlone);
+        Due.sentence("-1 there is no controller", Promise09StepTest::noController);
+        Due.sentence("-3 it is OFF or SILENT", Promise09StepTest::offOrSilent);
         Due.end();
     }
 
-    private static void refusals() {
+    private static void stateThen() {
         UpdatePacks x = Made.controllers(2);
-        for (int c : new int[] {0, -1, 3, 9, Integer.MIN_VALUE, Integer.MAX_VALUE}) {
+        Made.steps(x, 1, 0);
+        Made.pack(x, 1, 1, 33);
+        Made.pack(x, 2, 1, 1);
+        x.needs(1, 2);
+        x.condition(1, false);
+        Made.steps(x, 1, 1);
+        x.condition(1, true);
+        Made.steps(x, 1, 1, 1, 2, 2);
+        Made.steps(x, 2, 2, 2);
+        x.condition(1, false);
+        Made.steps(x, 1, 3, 3);
+        Made.steps(x, 2, 3);
+        Made.steps(x, 1, 0, 0);
+    }
+
+    private static void threeIfSwitched() {
+        UpdatePacks x = Made.controllers(1);
+        Made.ready(x, 1, 1);
+        Due.is("COMMITTED", x.step(1), 2);
+        Due.is("a SET of one is OPEN no more, and 3 all the same", x.step(1), 3);
+        Due.is("IDLE", x.step(1), 0);
+        UpdatePacks y = Made.committedPair();
+        Due.is("the first of two", y.step(2), 3);
+        Due.is("it stays SWITCHED", y.step(2), 3);
+        Due.is("the second of two", y.step(1), 3);
+        Due.is("IDLE", y.step(1), 0);
+        Due.is("IDLE too", y.step(2), 0);
+    }
+
+    private static void ofThatControllerAlone() {
+        UpdatePacks x = Made.controllers(3);
+        for (int k = 1; k <= 3; k++) {
+            Made.pack(x, k, 1, 17);
+        }
+        Made.steps(x, 2, 1, 2, 2, 3);
+        Due.is("1 wrote nothing", x.bank(1, 1, 0), 0);
+        Due.is("3 wrote nothing", x.bank(3, 1, 0), 0);
+        Made.steps(x, 3, 1, 2);
+        Made.steps(x, 1, 1, 2);
+        Due.is("1 does not run", x.counter(1), 0);
+        Due.is("2 does", x.counter(2), 1);
+    }
+
+    private static void noController() {
+        UpdatePacks x = Made.controllers(1);
+        for (int c : Made.noController(1)) {
             Due.is("step(" + c + ")", x.step(c), -1);
         }
+        UpdatePacks y = Made.controllers(8);
+        Due.is("step(8)", y.step(8), 0);
+        Due.is("step(9)", y.step(9), -1);
+    }
+
+    private static void offOrSilent() {
+        UpdatePacks x = Made.committedPair();
         x.silent(1, true);
         Due.is("SILENT", x.step(1), -3);
-        Due.is("the other", x.step(2), 0);
-        x.cut();
-        Due.is("OFF", x.step(2), -3);
-        x.boot(1);
-        Due.is("ON, but SILENT", x.step(1), -3);
+        Due.is("it did not switch", x.counter(1), 0);
         x.silent(1, false);
-        Due.is("ON and not SILENT", x.step(1), 0);
-    }
-
-    private static void idle() {
-        UpdatePacks x = Made.controllers(1);
-        Due.is("IDLE", x.step(1), 0);
-        Due.is("IDLE again", x.step(1), 0);
-        Made.run(x, 1, 1);
-        Due.is("IDLE after a switch", x.step(1), 0);
-    }
-
-    private static void intoTheBankThatDoesNotRun() {
-        UpdatePacks x = Made.controllers(1);
-        Made.run(x, 1, 1);
-        Made.pack(x, 1, 2, 16);
-        Due.is("sixteen octets are one block", x.step(1), 2);
-        Due.is("bank 0 has them", x.bank(1, 0, 15), Made.octet(1, 15));
-        Due.is("bank 1 runs, and has not", x.bank(1, 1, 15), 0);
-        Due.is("it runs edition 1", x.boot(1), 1);
-        Made.pack(x, 1, 3, 17);
-        Due.is("commit", x.step(1), 2);
-        Due.is("switch", x.step(1), 3);
-        Due.is("it runs edition 2", x.boot(1), 2);
-        Due.is("seventeen", x.package0(1, 3, true), 3);
-        Due.is("are two blocks", x.step(1), 1);
-        Due.is("the second", x.step(1), 2);
-        Due.is("bank 1 has them", x.bank(1, 1, 16), Made.octet(1, 16));
-    }
-
-    private static void theRestBecomesZero() {
-        UpdatePacks x = Made.controllers(1);
-        Made.pack(x, 1, 1, 64);
-        for (int k = 0; k < 3; k++) {
-            Due.is("a block", x.step(1), 1);
-        }
-        Made.pack(x, 1, 1, 18);
-        Due.is("block 0", x.step(1), 1);
-        Due.is("nothing is 0 before the last block", x.bank(1, 1, 40), Made.octet(1, 40));
-        Due.is("block 1", x.step(1), 2);
-        for (int i = 0; i < 256; i++) {
-            Due.is("octet " + i, x.bank(1, 1, i), i < 18 ? Made.octet(1, i) : 0);
-        }
-    }
-
-    private static void commitThenSwitch() {
-        UpdatePacks x = Made.controllers(1);
-        Made.ready(x, 1, 4);
-        Due.is("the first of the two steps", x.step(1), 2);
-        Due.is("nothing else happened", x.boot(1), 0);
-        Due.is("the counter neither", x.counter(1), 0);
-        Due.is("the second", x.step(1), 3);
-        Due.is("it runs edition 4", x.boot(1), 4);
-        Due.is("the counter", x.counter(1), 4);
-    }
-
-    private static void noCommitWhileOneIsAway(int stepping, int away) {
-        UpdatePacks x = Made.controllers(2);
-        int one = Made.ready(x, 1, 1);
-        int two = Made.ready(x, 2, 1);
-        x.needs(one, two);
-        x.silent(away, true);
-        Due.is(away + " is SILENT", x.step(stepping), 2);
-        Due.is(away + " is SILENT still", x.step(stepping), 2);
-        x.silent(away, false);
         x.cut();
-        x.boot(stepping);
-        Due.is(away + " is OFF", x.step(stepping), 2);
-        Due.is(away + " is OFF still", x.step(stepping), 2);
-        Due.is(away + " boots, and nothing was COMMITTED", x.boot(away), 0);
-        Due.is("commit", x.step(stepping), 2);
-        Due.is("switch", x.step(stepping), 3);
-    }
-
-    private static void noCommitWhileOneIsWriting(int stepping, int writing) {
-        UpdatePacks x = Made.controllers(2);
-        int one = Made.ready(x, stepping, 1);
-        int two = Made.pack(x, writing, 1, 17);
-        x.needs(one, two);
-        x.step(writing);
-        Due.is(writing + " is WRITING", x.step(stepping), 2);
-        Due.is(writing + " is WRITING still", x.step(stepping), 2);
-        Due.is(writing + " is READY", x.step(writing), 2);
-        Due.is("commit", x.step(writing), 2);
-        Due.is("switch", x.step(stepping), 3);
-    }
-
-    private static void switchesOneByOne() {
-        UpdatePacks x = Made.committedPair();
-        Due.is("1 switches", x.step(1), 3);
-        Due.is("1 is SWITCHED", x.step(1), 3);
-        Due.is("1 runs", x.counter(1), 5);
-        Due.is("2 does not", x.counter(2), 0);
+        Due.is("OFF", x.step(1), -3);
+        Due.is("it did not switch", x.counter(1), 0);
         x.silent(1, true);
-        Due.is("2 switches, whoever is SILENT", x.step(2), 3);
+        Due.is("OFF and SILENT", x.step(1), -3);
+        Due.is("OFF and IDLE", x.step(3), -3);
+        x.boot(3);
+        x.silent(3, true);
+        Due.is("SILENT and IDLE", x.step(3), -3);
+        x.silent(3, false);
+        Due.is("neither", x.step(3), 0);
+        Due.is("booting switches", x.boot(1), 5);
+        Due.is("SWITCHED and SILENT", x.step(1), -3);
         x.silent(1, false);
-        Due.is("1 is IDLE", x.step(1), 0);
-        Due.is("2 is IDLE", x.step(2), 0);
-        Due.is("2 runs", x.counter(2), 6);
-    }
-
-    private static void switchesTheOtherWayRound() {
-        UpdatePacks x = Made.committedPair();
-        Due.is("2 switches", x.step(2), 3);
-        Due.is("2 is SWITCHED", x.step(2), 3);
-        Due.is("no LAST SET yet", x.joint(), 0);
-        Due.is("1 switches", x.step(1), 3);
-        Due.is("2 is IDLE", x.step(2), 0);
-        Due.is("the LAST SET", x.joint(), 1);
+        Due.is("SWITCHED", x.step(1), 3);
     }
 }

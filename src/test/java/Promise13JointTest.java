@@ -1,57 +1,62 @@
 public final class Promise13JointTest {
     public static void main(String[] args) {
-        whileASetSwitches();
-        offAndSilentRunToo();
-        oneRunsAnother();
-        theLastOneCounts();
+        Due.sentence("1 if all controllers of the LAST SET run its packages", Promise13JointTest::allRun);
+        Due.sentence("0 if not", Promise13JointTest::oneRunsAnother);
+        Due.sentence("or there is none", Promise13JointTest::thereIsNone);
         Due.end();
     }
 
-    private static void whileASetSwitches() {
-        UpdatePacks x = Made.controllers(2);
-        Due.is("none", x.joint(), 0);
-        x = Made.committedPair();
-        Due.is("COMMITTED", x.joint(), 0);
-        x.step(1);
-        Due.is("one SWITCHED", x.joint(), 0);
-        x.step(2);
+    private static void allRun() {
+        UpdatePacks x = Made.pairThatRuns();
         Due.is("both", x.joint(), 1);
-        Due.is("rollback()", x.rollback(), 1);
-        Due.is("none after that", x.joint(), 0);
-    }
-
-    private static void offAndSilentRunToo() {
-        UpdatePacks x = Made.controllers(1);
-        Made.run(x, 1, 1);
+        Due.is("asked again", x.joint(), 1);
         x.silent(1, true);
         x.cut();
         Due.is("OFF and SILENT", x.joint(), 1);
-    }
-
-    private static void oneRunsAnother() {
-        UpdatePacks x = Made.committedPair();
-        x.step(1);
-        x.step(2);
-        int one = Made.ready(x, 1, 7);
+        x.boot(1);
+        x.boot(2);
+        x.silent(1, false);
+        Made.pack(x, 1, 9, 17);
+        Made.steps(x, 1, 1);
+        Due.is("one writes another", x.joint(), 1);
+        Made.steps(x, 1, 2);
         Due.is("READY does not run", x.joint(), 1);
-        int three = Made.ready(x, 3, 7);
-        x.needs(one, three);
-        Due.is("commit", x.step(1), 2);
+        Made.steps(x, 1, 2);
         Due.is("COMMITTED does not run", x.joint(), 1);
-        Due.is("1 switches", x.step(1), 3);
-        Due.is("1 runs a package of another SET", x.joint(), 0);
-        Due.is("3 switches", x.step(3), 3);
-        Due.is("that SET is the LAST one", x.joint(), 1);
+        Made.steps(x, 1, 3);
+        Due.is("a new LAST SET, of one", x.joint(), 1);
     }
 
-    private static void theLastOneCounts() {
-        UpdatePacks x = Made.controllers(2);
-        Made.run(x, 1, 1);
-        Made.run(x, 2, 1);
-        Due.is("joint()", x.joint(), 1);
+    /** Each of the two in turn runs a package of a SET that waits for controller 3 still. */
+    private static void oneRunsAnother() {
+        for (int c = 1; c <= 2; c++) {
+            UpdatePacks x = Made.pairThatRuns();
+            int one = Made.ready(x, c, 7);
+            int three = Made.ready(x, 3, 7);
+            x.needs(one, three);
+            Made.steps(x, c, 2);
+            Due.is("before it switches", x.joint(), 1);
+            Made.steps(x, c, 3);
+            Due.is(c + " runs a package of another SET", x.joint(), 0);
+            Made.steps(x, 3, 3);
+            Due.is("that SET is the LAST one", x.joint(), 1);
+        }
+    }
+
+    private static void thereIsNone() {
+        UpdatePacks x = new UpdatePacks();
+        Due.is("no controller", x.joint(), 0);
+        x = Made.readyPair();
+        Due.is("READY", x.joint(), 0);
+        Made.steps(x, 1, 2);
+        Due.is("COMMITTED", x.joint(), 0);
+        Made.steps(x, 1, 3);
+        Due.is("one SWITCHED", x.joint(), 0);
+        Made.steps(x, 2, 3);
+        Due.is("both", x.joint(), 1);
         Due.is("rollback()", x.rollback(), 1);
-        Due.is("2 went back", x.boot(2), 0);
-        Due.is("1 did not", x.boot(1), 1);
-        Due.is("no LAST SET", x.joint(), 0);
+        Due.is("gone back", x.joint(), 0);
+        Made.run(x, 1, 1);
+        Due.is("a new one", x.joint(), 1);
     }
 }

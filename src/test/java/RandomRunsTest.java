@@ -30,7 +30,7 @@ public final class RandomRunsTest {
         }
         while (used < CALLS) {
             // Whole packages now and then, or few would be made at all.
-            if (random.nextInt(6) == 0) {
+            if (used < CALLS - 1 && random.nextInt(6) == 0) {
                 offer(seed);
             } else {
                 oneCall(seed);
