@@ -29,6 +29,8 @@ public final class FaceTest {
     public static void main(String[] args) {
         Class<?> face = UpdatePacks.class;
         Due.is("the class is public and final", face.getModifiers(), Modifier.PUBLIC | Modifier.FINAL);
+        Due.is("it extends nothing", face.getSuperclass() == Object.class ? 1 : 0, 1);
+        Due.is("interfaces", face.getInterfaces().length, 0);
         Set<String> seen = new TreeSet<>();
         Set<String> names = new TreeSet<>();
         for (Method m : face.getDeclaredMethods()) {
